@@ -2,7 +2,7 @@ import java.util.Random;
 
 /** One call of the face with its arguments, so that it can be made on several objects. */
 final class Call {
-    private static final String[] NAMES = {
+    static final String[] NAMES = {
         "priority", "set", "link", "cut", "attach", "send", "deliver", "lose", "tick",
         "port", "root", "info", "learned", "inbox", "line", "message",
     };
@@ -19,9 +19,18 @@ final class Call {
         this.a = arguments;
     }
 
+    /** The call of the name with this number and with these arguments. */
+    static Call of(int name, int[] arguments) {
+        return new Call(name, arguments);
+    }
+
     /** A call that may be good; one in wrongIn has an argument out of bounds or at an edge. */
     static Call random(Random random, int wrongIn) {
-        int name = pick(random);
+        return random(random, wrongIn, pick(random));
+    }
+
+    /** Such a call of the name with this number. */
+    static Call random(Random random, int wrongIn, int name) {
         int[] a = new int[ARGUMENTS[name]];
         for (int i = 0; i < a.length; i++) {
             a[i] = argument(random, name, i);

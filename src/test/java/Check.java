@@ -1,8 +1,14 @@
 /** Counts and prints the answers that are not the ones that are due. */
 final class Check {
     private static int wrong = 0;
+    private static String sentence = "";
 
     private Check() {
+    }
+
+    /** Names the document's sentence that the checks from here on hold the program to. */
+    static void sentence(String words) {
+        sentence = words;
     }
 
     static void same(String what, long got, long due) {
@@ -32,7 +38,7 @@ final class Check {
 
     static void report(String text) {
         wrong++;
-        System.out.println(text);
+        System.out.println(text + (sentence.isEmpty() ? "" : " (\"" + sentence + "\")"));
     }
 
     /** To be called last by every test. */

@@ -1,10 +1,15 @@
 /** Promise 5: cut. */
 public final class CutTest {
+    private static final String COMES_OR_GOES = "When a link or station comes to a port or goes, the"
+            + " port has no INFO, DISCARDING, role none, an empty line, what was learned behind it is"
+            + " forgotten, and its bridge computes";
+
     public static void main(String[] args) {
         bothPortsAreFree(0, 0);
         bothPortsAreFree(1, 0);
         proposingGoesWithTheLink();
-        wrongInputs();
+        noSuchPort();
+        noLink();
         learnedPlacesBehindIt();
         theRootIsLost();
         theOtherWayIsTaken();
@@ -13,6 +18,7 @@ public final class CutTest {
     }
 
     private static void bothPortsAreFree(int b, int p) {
+        Check.sentence("The link of port p of bridge b goes: both ports are free.");
         BridgeNet x = Nets.pair();
         x.tick();
         x.tick();
@@ -31,6 +37,7 @@ public final class CutTest {
     }
 
     private static void proposingGoesWithTheLink() {
+        Check.sentence(COMES_OR_GOES);
         BridgeNet x = new BridgeNet();
         x.link(0, 0, 1, 0);
         x.cut(0, 0);
@@ -39,22 +46,41 @@ public final class CutTest {
         Check.same("port after ticks", x.port(0, 0), Nets.FREE);
     }
 
-    private static void wrongInputs() {
-        BridgeNet x = Nets.pair();
-        x.attach(0, 0, 1, 1);
+    private static void noSuchPort() {
+        Check.sentence("False when it has none.");
+        BridgeNet x = new BridgeNet();
+        x.link(0, 0, 4, 3);
+        x.link(0, 3, 4, 0);
         for (int b : Nets.NO_BRIDGES) {
-            Check.no("cut on no bridge", x.cut(b, 0));
+            Check.no("bridge " + b, x.cut(b, 0));
         }
         for (int p : Nets.NO_PORTS) {
-            Check.no("cut on no port", x.cut(0, p));
+            Check.no("port " + p, x.cut(0, p));
+            Check.no("port " + p, x.cut(4, p));
         }
-        Check.no("cut of a free port", x.cut(0, 2));
-        Check.no("cut of a station's port", x.cut(0, 1));
+        Check.same("linked still", x.port(0, 0), Nets.proposing(Nets.DISCARDING, 4));
+        Check.same("linked still", x.port(4, 0), Nets.proposing(Nets.DISCARDING, 4));
+        Check.yes("the first", x.cut(0, 0));
+        Check.yes("the last port", x.cut(0, 3));
+    }
+
+    private static void noLink() {
+        Check.sentence("False when it has none.");
+        BridgeNet x = Nets.pair();
+        x.attach(0, 0, 1, 1);
+        Check.no("a free port", x.cut(0, 2));
+        Check.no("a station's port", x.cut(0, 1));
         Check.same("the station stays", x.port(0, 1), Nets.STATION_PORT);
         Check.same("the link stays", x.port(1, 0), Nets.ROOT_PORT);
+        Check.yes("a linked port", x.cut(0, 0));
+        Check.no("one that was linked", x.cut(0, 0));
+        Check.no("its other end", x.cut(1, 0));
+        x.attach(1, 1, 0, 1);
+        Check.no("a station where the link was", x.cut(1, 0));
     }
 
     private static void learnedPlacesBehindIt() {
+        Check.sentence(COMES_OR_GOES);
         BridgeNet x = Nets.row();
         x.attach(0, 0, 0, 1);
         x.attach(1, 2, 1, 1);
@@ -76,6 +102,7 @@ public final class CutTest {
     }
 
     private static void theRootIsLost() {
+        Check.sentence(COMES_OR_GOES);
         BridgeNet x = Nets.row();
         Check.yes("cut", x.cut(0, 1));
         Check.same("its own root", x.root(1), 65);
@@ -85,6 +112,7 @@ public final class CutTest {
     }
 
     private static void theOtherWayIsTaken() {
+        Check.sentence(COMES_OR_GOES);
         BridgeNet x = new BridgeNet();
         x.link(0, 0, 1, 0);
         x.link(0, 1, 1, 1);
@@ -97,6 +125,7 @@ public final class CutTest {
     }
 
     private static void linkedAnew() {
+        Check.sentence("The link of port p of bridge b goes: both ports are free.");
         BridgeNet x = Nets.pair();
         x.cut(0, 0);
         Check.yes("linked elsewhere", x.link(2, 0, 0, 0));

@@ -23,6 +23,10 @@ final class Nets {
     static final int[] NO_PORTS = {-1, 4, 100, Integer.MIN_VALUE, Integer.MAX_VALUE};
     static final int[] NO_STATIONS = {-1, 8, 9, Integer.MIN_VALUE, Integer.MAX_VALUE};
     static final int[] NO_VLANS = {-1, 0, 3, Integer.MIN_VALUE, Integer.MAX_VALUE};
+    static final int[] NO_VLAN_SETS = {-1, 0, 4, Integer.MIN_VALUE, Integer.MAX_VALUE};
+    static final int[] NO_PRIORITIES = {-1, 16, 100, Integer.MIN_VALUE, Integer.MAX_VALUE};
+    static final int[] NO_COSTS = {-1, 0, 51, Integer.MIN_VALUE, Integer.MAX_VALUE};
+    static final int[] NO_DESTINATIONS = {-1, 10, 100, Integer.MIN_VALUE, Integer.MAX_VALUE};
 
     private Nets() {
     }
@@ -103,6 +107,38 @@ final class Nets {
         Check.yes("link(0, 1, 1, 0)", x.link(0, 1, 1, 0));
         Check.yes("link(1, 1, 2, 0)", x.link(1, 1, 2, 0));
         settle(x);
+        return x;
+    }
+
+    /**
+     * Bridges 1 and 2 with two links, whose way to the root is cut: they go on telling each other
+     * of it. Bridge 1 has heard of 4 hops and takes itself to be 5 away; it has just told so.
+     */
+    static BridgeNet fiveHopsAway(int cost) {
+        BridgeNet x = row();
+        for (int p = 0; p < 3; p++) {
+            x.set(1, p, cost, 3);
+            x.set(2, p, cost, 3);
+        }
+        settle(x);
+        x.link(1, 2, 2, 1);
+        x.lose(1, 2);
+        x.deliver(2, 0);
+        x.deliver(2, 1);
+        x.deliver(1, 2);
+        Check.same("root of 2", x.root(2), root(64, 2 * cost, 2));
+        Check.same("blocked", x.port(2, 1), BLOCKED_PORT);
+        Check.same("agreed", x.port(1, 2), AGREED_PORT);
+        x.cut(0, 1);
+        x.deliver(2, 0);
+        x.lose(2, 1);
+        Check.same("the blocked port takes over", x.port(2, 1), ROOT_PORT);
+        x.deliver(1, 1);
+        Check.same("root of 1", x.root(1), root(64, 3 * cost, 3));
+        x.deliver(2, 1);
+        Check.same("root of 2", x.root(2), root(64, 4 * cost, 4));
+        x.deliver(1, 1);
+        Check.same("root of 1", x.root(1), root(64, 5 * cost, 5));
         return x;
     }
 

@@ -9,6 +9,7 @@ public final class NewObjectTest {
     }
 
     private static void nothingIsThere() {
+        Check.sentence("nothing linked. Every bridge is its own root.");
         BridgeNet x = new BridgeNet();
         for (int b = 0; b < 5; b++) {
             Check.same("root of new bridge " + b, x.root(b), Nets.root(64 + b, 0, 0));
@@ -16,6 +17,9 @@ public final class NewObjectTest {
                 Check.same("new port", x.port(b, p), Nets.FREE);
                 Check.same("new info", x.info(b, p), -1);
                 Check.same("new line", x.line(b, p), 0);
+                Check.same("new message", x.message(b, p, 0), 0);
+                Check.same("nothing to deliver", x.deliver(b, p), 0);
+                Check.no("nothing to lose", x.lose(b, p));
                 Check.no("cut of a new port", x.cut(b, p));
             }
             for (int s = 0; s < 8; s++) {
@@ -26,12 +30,14 @@ public final class NewObjectTest {
         for (int s = 0; s < 8; s++) {
             int station = s;
             Check.same("new inbox", x.inbox(s, -1), 0);
+            Check.same("nothing in it", x.inbox(s, 0), -1);
             Check.thrown("send of a new station", IllegalStateException.class,
                     () -> x.send(station, 8, 1));
         }
     }
 
     private static void costsAreTen() {
+        Check.sentence("All priorities 8, costs 10");
         for (int c = 1; c < 5; c++) {
             for (int q = 0; q < 4; q++) {
                 BridgeNet x = new BridgeNet();
@@ -50,6 +56,7 @@ public final class NewObjectTest {
     }
 
     private static void bothVlansAreOnAllPorts() {
+        Check.sentence("both VLANs on all ports");
         for (int b = 0; b < 5; b++) {
             BridgeNet x = new BridgeNet();
             for (int p = 0; p < 4; p++) {
@@ -64,6 +71,7 @@ public final class NewObjectTest {
     }
 
     private static void objectsAreApart() {
+        Check.sentence("");
         BridgeNet one = new BridgeNet();
         BridgeNet other = new BridgeNet();
         String before = Nets.snapshot(new BridgeNet());

@@ -1,7 +1,12 @@
 /** Promise 7: send. */
 public final class SendTest {
+    private static final String HOW_MANY = "Answers on how many ports its bridge let it go out.";
+
     public static void main(String[] args) {
-        wrongInputs();
+        noSuchStation();
+        nowhere();
+        noSuchDestination();
+        onHowManyPorts();
         whichExceptionComesFirst();
         floodAndLearned();
         reservedAndOwn();
@@ -12,26 +17,64 @@ public final class SendTest {
         Check.end();
     }
 
-    private static void wrongInputs() {
+    private static void noSuchStation() {
+        Check.sentence("IndexOutOfBoundsException when there is no s");
         BridgeNet x = new BridgeNet();
         x.attach(0, 0, 0, 1);
+        x.attach(7, 0, 1, 1);
         for (int s : Nets.NO_STATIONS) {
-            Check.thrown("no station", IndexOutOfBoundsException.class, () -> x.send(s, 8, 1));
+            Check.thrown("station " + s, IndexOutOfBoundsException.class, () -> x.send(s, 8, 1));
         }
-        for (int d : new int[] {-1, 10, 100, Integer.MIN_VALUE, Integer.MAX_VALUE}) {
-            Check.thrown("no destination", IllegalArgumentException.class, () -> x.send(0, d, 1));
-        }
+        Check.same("no inbox", x.inbox(0, -1) + x.inbox(7, -1), 0);
+        Check.same("the first", x.send(0, 8, 1), 1);
+        Check.same("the last", x.send(7, 8, 1), 1);
+    }
+
+    private static void nowhere() {
+        Check.sentence("IllegalStateException when it is nowhere");
+        BridgeNet x = new BridgeNet();
+        x.attach(0, 0, 0, 1);
         for (int s = 1; s < 8; s++) {
             int station = s;
-            Check.thrown("nowhere", IllegalStateException.class, () -> x.send(station, 8, 1));
+            Check.thrown("station " + s, IllegalStateException.class, () -> x.send(station, 8, 1));
+            Check.same("nothing learned", x.learned(0, s, 1), -1);
+        }
+        Check.same("nothing came", x.inbox(0, -1), 0);
+        x.attach(0, 3, 3, 2);
+        Check.same("one that has moved is somewhere", x.send(0, 8, 1), 0);
+        Check.same("learned", x.learned(3, 0, 2), 3);
+    }
+
+    private static void noSuchDestination() {
+        Check.sentence("IllegalArgumentException when the destination is not 0 .. 9.");
+        BridgeNet x = new BridgeNet();
+        x.attach(0, 0, 0, 1);
+        x.attach(1, 0, 1, 1);
+        for (int d : Nets.NO_DESTINATIONS) {
+            Check.thrown("to " + d, IllegalArgumentException.class, () -> x.send(0, d, 1));
         }
         Check.same("nothing learned", x.learned(0, 0, 1), -1);
+        Check.same("nothing came", x.inbox(1, -1), 0);
         for (int d = 0; d <= 9; d++) {
-            Check.same("alone", x.send(0, d, Integer.MIN_VALUE), 0);
+            Check.same("to " + d, x.send(0, d, Integer.MIN_VALUE), d == 0 || d == 9 ? 0 : 1);
+        }
+    }
+
+    private static void onHowManyPorts() {
+        Check.sentence(HOW_MANY);
+        BridgeNet x = new BridgeNet();
+        x.attach(0, 0, 0, 1);
+        Check.same("none", x.send(0, 8, 1), 0);
+        for (int s = 1; s < 4; s++) {
+            x.attach(s, 0, s, 1);
+            Check.same("for all on " + s, x.send(0, 8, 1), s);
+            Check.same("for one that is not known on " + s, x.send(0, 7, 1), s);
         }
     }
 
     private static void whichExceptionComesFirst() {
+        Check.sentence("throws IndexOutOfBoundsException, IllegalStateException,"
+                + " IllegalArgumentException");
         BridgeNet x = new BridgeNet();
         Check.thrown("no station, no destination", IndexOutOfBoundsException.class,
                 () -> x.send(8, 10, 1));
@@ -40,6 +83,7 @@ public final class SendTest {
     }
 
     private static void floodAndLearned() {
+        Check.sentence(HOW_MANY);
         BridgeNet x = new BridgeNet();
         for (int s = 0; s < 4; s++) {
             x.attach(s, 0, s, 1);
@@ -57,6 +101,7 @@ public final class SendTest {
     }
 
     private static void reservedAndOwn() {
+        Check.sentence(HOW_MANY);
         BridgeNet x = new BridgeNet();
         x.attach(0, 0, 0, 1);
         x.attach(1, 0, 1, 1);
@@ -69,6 +114,7 @@ public final class SendTest {
     }
 
     private static void overALink() {
+        Check.sentence(HOW_MANY);
         BridgeNet x = Nets.pair();
         x.attach(0, 0, 1, 2);
         x.attach(1, 1, 1, 2);
@@ -83,6 +129,7 @@ public final class SendTest {
     }
 
     private static void notForwarding() {
+        Check.sentence(HOW_MANY);
         BridgeNet x = new BridgeNet();
         x.link(0, 0, 1, 0);
         x.attach(0, 0, 1, 1);
@@ -94,6 +141,7 @@ public final class SendTest {
     }
 
     private static void otherVlans() {
+        Check.sentence(HOW_MANY);
         BridgeNet x = new BridgeNet();
         x.attach(0, 0, 0, 1);
         x.attach(1, 0, 1, 2);
@@ -111,6 +159,7 @@ public final class SendTest {
     }
 
     private static void fullLineAndInboxCount() {
+        Check.sentence(HOW_MANY);
         BridgeNet x = Nets.pair();
         x.attach(0, 0, 1, 1);
         x.attach(1, 0, 2, 1);
