@@ -11,6 +11,9 @@ public final class ComputeTest {
         costBeforeBridge();
         bridgeBeforePort();
         portAtLast();
+        theBestCandidateCounts();
+        noRootPort();
+        rolesOfPorts();
         designatedOrBlocked();
         becomingRoot();
         becomingBlocked();
@@ -143,6 +146,50 @@ public final class ComputeTest {
             Check.same("the teller's lesser port", x.port(1, 1), Nets.ROOT_PORT);
             Check.same("the teller's greater port", x.port(1, 0), Nets.BLOCKED_PORT);
         }
+    }
+
+    private static void theBestCandidateCounts() {
+        Check.sentence("its root is the bridge's ROOT, its cost the bridge's COST, its hops the"
+                + " bridge's HOPS, and the port from which it comes, if any, is the ROOT PORT.");
+        for (int p = 0; p < 4; p++) {
+            BridgeNet x = new BridgeNet();
+            for (int q = 0; q < 4; q++) {
+                x.set(4, q, q == p ? 30 : 31, 3);
+                x.link(q, 0, 4, q);
+            }
+            for (int q = 3; q >= 0; q--) {
+                x.deliver(4, q);
+                Check.same("root", x.root(4), Nets.root(64 + q, q == p ? 30 : 31, 1));
+                Check.same("root port", x.port(4, q), Nets.ROOT_PORT);
+            }
+        }
+    }
+
+    private static void noRootPort() {
+        Check.sentence("and the port from which it comes, if any, is the ROOT PORT.");
+        BridgeNet x = new BridgeNet();
+        for (int q = 0; q < 4; q++) {
+            x.link(0, q, 1 + q, 0);
+        }
+        Nets.settle(x);
+        for (int q = 0; q < 4; q++) {
+            Check.yes("INFO", x.info(0, q) >= 0);
+            Check.same("designated", x.port(0, q), Nets.AGREED_PORT);
+        }
+    }
+
+    private static void rolesOfPorts() {
+        Check.sentence("ROLES: a free port has none (0); a port with a station is DESIGNATED (2);"
+                + " the root port is ROOT (1)");
+        BridgeNet x = Nets.pair();
+        x.attach(0, 1, 1, 1);
+        Check.same("free", x.port(1, 2) % 4, 0);
+        Check.same("station", x.port(1, 1) % 4, 2);
+        Check.same("root port", x.port(1, 0) % 4, 1);
+        Nets.ticks(x, 6);
+        Check.same("free, when all compute", x.port(1, 2) % 4, 0);
+        Check.same("station, when all compute", x.port(1, 1) % 4, 2);
+        Check.same("no root port any more", x.port(1, 0) % 4, 2);
     }
 
     /** Which of 3 and 4 is designated on their link, with 2 as the root at cost 10 from 4. */

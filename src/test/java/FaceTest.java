@@ -5,7 +5,10 @@ import java.lang.reflect.Modifier;
 import java.util.Arrays;
 import java.util.TreeSet;
 
-/** The public face: the document's constructor and methods, and nothing else that is not private. */
+/**
+ * The public face: the document's constructor and methods, and nothing else that is not private;
+ * and those of the language's rules on classes that can be seen from without.
+ */
 public final class FaceTest {
     private static final String[] FACE = {
         "boolean cut(int, int)",
@@ -40,7 +43,43 @@ public final class FaceTest {
             Check.yes("private field " + field, Modifier.isPrivate(field.getModifiers()));
         }
         methods();
+        Class<?>[] inside = BridgeNet.class.getDeclaredClasses();
+        Check.yes("at most twelve classes", inside.length < 12);
+        classInside(BridgeNet.class);
+        for (Class<?> one : inside) {
+            Check.yes("static " + one, Modifier.isStatic(one.getModifiers()));
+            Check.no("public " + one, Modifier.isPublic(one.getModifiers()));
+            Check.no("protected " + one, Modifier.isProtected(one.getModifiers()));
+            classInside(one);
+        }
         Check.end();
+    }
+
+    private static void classInside(Class<?> one) {
+        int fields = 0;
+        for (Field field : one.getDeclaredFields()) {
+            if (Modifier.isStatic(field.getModifiers())) {
+                Check.yes("final " + field, Modifier.isFinal(field.getModifiers()));
+            } else {
+                fields++;
+            }
+        }
+        Check.yes("at most twenty fields in " + one, fields <= 20);
+        for (Method method : one.getDeclaredMethods()) {
+            Check.yes("at most seven parameters of " + method, method.getParameterCount() <= 7);
+            if (!Modifier.isPublic(method.getModifiers())) {
+                Check.no("a public method's name for " + method, isOfTheFace(method.getName()));
+            }
+        }
+    }
+
+    private static boolean isOfTheFace(String name) {
+        for (String line : FACE) {
+            if (line.contains(" " + name + "(")) {
+                return true;
+            }
+        }
+        return false;
     }
 
     private static void methods() {

@@ -7,6 +7,7 @@ public final class InfoTest {
     public static void main(String[] args) {
         noSuchPort();
         none();
+        onlyLinkedPorts();
         noneAnyMore();
         everyPart();
         leastAndGreatestParts();
@@ -39,10 +40,23 @@ public final class InfoTest {
         Check.sentence(NONE);
         BridgeNet x = new BridgeNet();
         x.link(0, 0, 1, 0);
-        x.attach(0, 0, 1, 1);
         Check.same("linked, nothing has come", x.info(0, 0), -1);
-        Check.same("station", x.info(0, 1), -1);
-        Check.same("free", x.info(0, 2), -1);
+        x.lose(0, 0);
+        Check.same("what came was lost", x.info(0, 0), -1);
+        Nets.ticks(x, 2);
+        x.deliver(0, 0);
+        Check.yes("told", x.info(0, 0) >= 0);
+    }
+
+    private static void onlyLinkedPorts() {
+        Check.sentence("A linked port may hold INFO: a vector, its HOPS and its LIFE in ticks.");
+        BridgeNet x = Nets.pair();
+        x.attach(0, 1, 1, 1);
+        x.send(0, 8, 1);
+        Nets.ticks(x, 2);
+        Check.same("linked", x.info(1, 0), Nets.info(64, 0, 64, 0, 0, 4));
+        Check.same("station", x.info(1, 1), -1);
+        Check.same("free", x.info(1, 2), -1);
     }
 
     private static void noneAnyMore() {

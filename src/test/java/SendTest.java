@@ -6,6 +6,7 @@ public final class SendTest {
         noSuchStation();
         nowhere();
         noSuchDestination();
+        inItsVlan();
         onHowManyPorts();
         whichExceptionComesFirst();
         floodAndLearned();
@@ -57,6 +58,19 @@ public final class SendTest {
         Check.same("nothing came", x.inbox(1, -1), 0);
         for (int d = 0; d <= 9; d++) {
             Check.same("to " + d, x.send(0, d, Integer.MIN_VALUE), d == 0 || d == 9 ? 0 : 1);
+        }
+    }
+
+    private static void inItsVlan() {
+        Check.sentence("Station s sends a frame in its VLAN.");
+        for (int vlan = 1; vlan <= 2; vlan++) {
+            BridgeNet x = Nets.pair();
+            x.attach(0, 1, 1, 3 - vlan);
+            x.attach(0, 1, 2, vlan);
+            x.send(0, 8, 1);
+            Check.same("message", x.message(0, 0, 0), Nets.frame(8, vlan));
+            Check.same("learned", x.learned(1, 0, vlan), 2);
+            Check.same("not in the other", x.learned(1, 0, 3 - vlan), -1);
         }
     }
 
